@@ -267,7 +267,7 @@ public final class CouncilSequence {
 
     private boolean openCouncil(int p, Member member) {
         int batch = member.undelivered();
-        // Every batch agreed on is new, so none is left after the last council; yet none may open.
+        // Each council delivers something new, so the eighth leaves nothing; the bound guards the rows.
         if (batch == 0 || member.council >= COUNCILS) {
             return false;
         }
