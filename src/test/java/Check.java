@@ -14,6 +14,11 @@ final class Check {
         part = name;
     }
 
+    /** A sentence of the document, and what of it is tested. */
+    void begin(String sentence, String what) {
+        part = "\"" + sentence + "\", " + what;
+    }
+
     void due(String call, long got, long want) {
         asked++;
         if (got != want) {

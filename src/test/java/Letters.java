@@ -41,15 +41,39 @@ final class Letters {
         return text.toString();
     }
 
-    /** Delivers the first letter that is written so; answers what deliver does, 0 if none waits. */
+    /**
+     * Delivers the letter that is written so; answers what deliver does, 0 if none waits. No letter
+     * is sent twice from one process to another, and the latest ones are asked for most often.
+     */
     static int bring(CouncilSequence x, int from, int to, int letter) {
-        int count = x.letters(from, to);
-        for (int j = 0; j < count; j++) {
+        for (int j = x.letters(from, to) - 1; j >= 0; j--) {
             if (x.letter(from, to, j) == letter) {
                 return x.deliver(from, to, j);
             }
         }
         return 0;
+    }
+
+    /** The same for a letter of which the batch and the stamp need not be told. */
+    static int bring(CouncilSequence x, int from, int to, int kind, int council, int round) {
+        int head = kind + 8 * council + 64 * round;
+        for (int j = x.letters(from, to) - 1; j >= 0; j--) {
+            if (x.letter(from, to, j) % 1024 == head) {
+                return x.deliver(from, to, j);
+            }
+        }
+        return 0;
+    }
+
+    /** Whether such a letter waits, whatever its batch and stamp. */
+    static boolean waits(CouncilSequence x, int from, int to, int kind, int council, int round) {
+        int head = kind + 8 * council + 64 * round;
+        for (int j = x.letters(from, to) - 1; j >= 0; j--) {
+            if (x.letter(from, to, j) % 1024 == head) {
+                return true;
+            }
+        }
+        return false;
     }
 
     /** All that can be asked of an object of n processes, as a text. */
